@@ -214,6 +214,7 @@ public final class PromisesTest {
         PathSteps x = ring();
         due("4: one", 1, x.from(0));
         due("4: two", 2, x.from(1));
+        due("4: one to the first node", 1, x.from(2));
         due("4: only come to", 0, x.from(3));
         due("4: in no triple", 0, x.from(31));
         x.triple(1, 3, 2);
@@ -376,6 +377,13 @@ public final class PromisesTest {
         due("5: a link, a told end", 0, x.run(1, 20, -1));
         due("5: all others, a told end", 0, x.run(7, 20, 20));
         due("5: the next run tells no ends", 10, x.run(3, -1, -1));
+        PathSteps bare = new PathSteps();
+        bare.path(0, 0, 0);
+        bare.path(4, 1, 0);
+        bare.path(2, 2, 2);
+        bare.path(5, 3, 0);
+        due("5: a told end, deep inside", 1, bare.run(4, 0, -1));
+        due("5: the next run forgets it", 0, bare.run(4, -1, -1));
         due("7: a told end", 1, x.plain(3, 20, 20));
         due("7: the next tells no ends", 10, x.plain(3, -1, -1));
     }
@@ -499,6 +507,11 @@ public final class PromisesTest {
         dueRows("6: the next run has it", x, "0-1:1 0-2:2 0-3:1");
         x.triple(3, 0, 0);
         due("7: the next plain has it", 4, x.plain(2, 0, -1));
+        x.triple(0, 1, 0);
+        x.path(0, 1, 0);
+        due("7: a first count", 1, x.plain(3, -1, -1));
+        x.triple(0, 2, 0);
+        due("7: a second count is not added to the first", 1, x.plain(3, -1, -1));
     }
 
     private static void at() {
@@ -636,6 +649,12 @@ public final class PromisesTest {
         x.path(6, 11, 0);
         x.run(14, 4, -1);
         dueRows("10: none or one", x, "4-4:0 4-5:1");
+
+        PathSteps around = chain(31);
+        around.triple(31, 0, 0);
+        around.path(5, 1, 0);
+        around.run(2, 0, 0);
+        dueRows("10: once round all nodes", around, "0-0:32");
     }
 
     private static void depthThrows() {
