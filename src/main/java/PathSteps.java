@@ -372,7 +372,8 @@ public final class PathSteps {
         private void addTimes(int x, int y, long more) {
             if (more > 0) {
                 int i = x * NODES + y;
-                times[i] = (int) Math.min(times[i] + more, (long) MOST_TIMES);
+                long sum = times[i] + more;
+                times[i] = sum > MOST_TIMES ? MOST_TIMES : (int) sum;
                 joined[x] |= 1 << y;
             }
         }
