@@ -11,6 +11,15 @@ final class Due {
     private Due() {
     }
 
+    /** Runs one sentence's test; what it lets through is told with its sentence, and the next one runs. */
+    static void test(Runnable test) {
+        try {
+            test.run();
+        } catch (RuntimeException e) {
+            same("a call", "no exception", e.toString());
+        }
+    }
+
     /** The document's words that all checks up to the next sentence belong to. */
     static void sentence(String words) {
         sentence = words;

@@ -21,7 +21,13 @@ public final class RefusalsTest {
     }
 
     public static void main(String[] args) {
-        Due.sentence("REFUSALS change nothing and answer, -1 an unknown number, -2 outside a range, "
+        Due.test(RefusalsTest::changeNothing);
+        Due.test(RefusalsTest::firstThatFits);
+        Due.end();
+    }
+
+    private static void changeNothing() {
+        Due.sentence("REFUSALS change nothing and answer .. -1 an unknown number, -2 outside a range, "
             + "-3 not in this state, -4 no room");
         unknownNumbers();
         outsideRanges();
@@ -40,7 +46,27 @@ public final class RefusalsTest {
         for (Refusal refusal : refusals) {
             changesNothing(refusal, full(), full(), "full");
         }
-        Due.end();
+    }
+
+    private static void firstThatFits() {
+        Due.sentence("REFUSALS .. answer, the first that fits");
+        PathSteps x = full();
+        Due.is("triple, -2 and -4", -2, x.triple(32, 0, 0));
+        Due.is("path, -1 and -4", -1, x.path(2, 41, 1));
+        Due.is("path, -1 and -4, b", -1, x.path(3, 1, 41));
+        Due.is("path, -2 and -4", -2, x.path(0, 16, 0));
+        Due.is("path, kind, -2 and -4", -2, x.path(7, 1, 1));
+        Due.is("inverse, -1 and -4", -1, x.inverse(41));
+        Due.is("negated, -2 and -4", -2, x.negated(16, 0));
+        Due.is("run, -1 and -2", -1, x.run(41, 32, 32));
+        Due.is("run, -2 and -4", -2, x.run(40, 32, -1));
+        Due.is("plain, -1 and -2", -1, x.plain(41, -2, -2));
+        Due.is("at, -2 and -1", -2, x.at(9999, 2));
+        PathSteps notRun = fresh(false);
+        Due.is("at, -2, -3 and -1", -2, notRun.at(-1, 2));
+        Due.is("at, -3 and -1", -3, notRun.at(-1, 1));
+        Due.is("run, -2 and -5", -2, notRun.run(3, -1, 32));
+        Due.is("run, -1, -2 and none to be beyond", -1, notRun.run(7, -1, 32));
     }
 
     private static void refused(String name, int due, ToIntFunction<PathSteps> call) {

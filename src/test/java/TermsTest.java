@@ -4,36 +4,36 @@ public final class TermsTest {
     private static final int HIGH = Due.HIGH;
 
     public static void main(String[] args) {
-        calls();
-        nodes();
-        predicates();
-        triplesAtMost();
-        triplesEachOnce();
-        pathsAtMost();
-        pathsFromOneOn();
-        pathsOfEarlierOnes();
-        timesAtMost();
-        timesAtMostForEachPair();
-        timesAtMostOfASum();
-        kind0();
-        kind1();
-        kind2();
-        kind3();
-        kind4Itself();
-        kind4ComeTo();
-        kind5();
-        kind6();
-        kind7();
-        graphOfTriples();
-        graphOfToldEnds();
-        onlyByTriples();
-        endsTold();
-        rowsByXThenByY();
-        rowsAsOftenAsJoined();
-        beyondMoreThanMost();
-        beyondOfKind4Or5();
-        beyondInWhatItIsMadeOf();
-        beyondInTheGraphOfTheRun();
+        Due.test(TermsTest::calls);
+        Due.test(TermsTest::nodes);
+        Due.test(TermsTest::predicates);
+        Due.test(TermsTest::triplesAtMost);
+        Due.test(TermsTest::triplesEachOnce);
+        Due.test(TermsTest::pathsAtMost);
+        Due.test(TermsTest::pathsFromOneOn);
+        Due.test(TermsTest::pathsOfEarlierOnes);
+        Due.test(TermsTest::timesAtMost);
+        Due.test(TermsTest::timesAtMostForEachPair);
+        Due.test(TermsTest::timesAtMostOfASum);
+        Due.test(TermsTest::kind0);
+        Due.test(TermsTest::kind1);
+        Due.test(TermsTest::kind2);
+        Due.test(TermsTest::kind3);
+        Due.test(TermsTest::kind4Itself);
+        Due.test(TermsTest::kind4ComeTo);
+        Due.test(TermsTest::kind5);
+        Due.test(TermsTest::kind6);
+        Due.test(TermsTest::kind7);
+        Due.test(TermsTest::graphOfTriples);
+        Due.test(TermsTest::graphOfToldEnds);
+        Due.test(TermsTest::onlyByTriples);
+        Due.test(TermsTest::endsTold);
+        Due.test(TermsTest::rowsByXThenByY);
+        Due.test(TermsTest::rowsAsOftenAsJoined);
+        Due.test(TermsTest::beyondMoreThanMost);
+        Due.test(TermsTest::beyondOfKind4Or5);
+        Due.test(TermsTest::beyondInWhatItIsMadeOf);
+        Due.test(TermsTest::beyondInTheGraphOfTheRun);
         Due.end();
     }
 
@@ -390,6 +390,7 @@ public final class TermsTest {
         down.path(3, 1, 1);
         down.path(4, 3, 0);
         Due.is("once, though each step joins twice", 1, down.plain(4, 31, 0));
+        Due.is("once by one step, though it joins twice", 1, down.plain(4, 31, 30));
 
         PathSteps round = Given.round(32);
         round.path(4, 1, 0);
@@ -676,7 +677,7 @@ public final class TermsTest {
     }
 
     private static void beyondInTheGraphOfTheRun() {
-        Due.sentence("It goes BEYOND if some PATH .. joins more pairs than MOST, in the GRAPH of the run");
+        Due.sentence("THE GRAPH of a run: .. It goes BEYOND if some PATH .. joins more pairs than MOST");
         PathSteps x = Given.ringWithWalks();
         x.steps(10);
         Due.is("no told end", 10, x.run(3, -1, -1));
